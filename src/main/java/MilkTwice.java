@@ -33,6 +33,7 @@ public final class MilkTwice {
   private static final int FAR = 60;
   private static final int MOST_PACKS = 20;
   private static final int NOT_BY_PACKS = 99;
+  private static final int MOST_MINUTES = 60;
 
   // How a LINE is marked: by the letter that tells it in a HOUSE.
   private static final int WRITTEN = 'w';
@@ -311,7 +312,7 @@ public final class MilkTwice {
       return refuse(refusal);
     }
     int set = mind.bestSet(v);
-    return what == 0 ? set : mind.lackedWithSet(set);
+    return what == 0 ? set : mind.lackedBySet(set);
   }
 
   public int lasts(int k) {
@@ -518,7 +519,7 @@ public final class MilkTwice {
     if (t > 20 || c > 9 || h > 99) {
       return refuse(ROOM);
     }
-    return h / t > c ? FAR : 0;
+    return h / t > c ? MOST_MINUTES : 0;
   }
 
   // ---- The row ----
@@ -1490,11 +1491,6 @@ public final class MilkTwice {
       return best;
     }
 
-    int lackedWithSet(int set) {
-      weighPacks();
-      return lackedBySet(set);
-    }
-
     /** Notes of each THING what lacks in a week without a PACK more and with one. */
     private void weighPacks() {
       for (int thing = 0; thing < house.cupboard.things; thing++) {
@@ -1513,7 +1509,8 @@ public final class MilkTwice {
       return together;
     }
 
-    private int lackedBySet(int set) {
+    /** As the PACKS were weighed for the best set. */
+    int lackedBySet(int set) {
       int together = 0;
       for (int thing = 0; thing < house.cupboard.things; thing++) {
         together += (set >> thing & 1) == 1 ? lackedWith[thing] : lackedWithout[thing];

@@ -52,6 +52,7 @@ public final class CupboardTest {
     due("20 runsOut(6)", x.runsOut(6), -1);
     due("20 runsOut(-1)", x.runsOut(-1), -1);
     MilkTwice y = Check.told("t000;t001;s159;");
+    due("21 firstOut(), the first", Check.told("t003;t001;s005;s109;").firstOut(), 0);
     due("20 runsOut(0), USE 0", y.runsOut(0), -9);
     due("20 runsOut(1)", y.runsOut(1), 60);
     due("21 firstOut()", y.firstOut(), 1);
@@ -67,6 +68,8 @@ public final class CupboardTest {
       due("22 buyFor(" + thing + ", 5)", x.buyFor(thing, 5), packs[thing]);
     }
     due("22 buyFor(4, 1)", x.buyFor(4, 1), 1);
+    due("22 buyFor(-1, 1)", x.buyFor(-1, 1), 25 + 5 + 2);
+    due("22 buyFor(2, 30)", x.buyFor(2, 30), 9);
     due("22 buyFor(0, 2)", x.buyFor(0, 2), 0);
     due("22 buyFor(-1, 5)", x.buyFor(-1, 5), 5 * 5 + 8 * 3 + 4 + 5 * 25 + 2 * 2);
     due("22 buyFor(-2, 0)", x.buyFor(-2, 0), -1);
@@ -94,6 +97,9 @@ public final class CupboardTest {
       due("23 order(" + pence[i] + ", 1)", x.order(pence[i], 1), lacking[i]);
     }
     MilkTwice y = Check.told("t001;t001;");
+    due("23 order(4, 0), all", y.order(4, 0), 3);
+    due("23 order(4, 1), all", y.order(4, 1), 12);
+    due("23 order(3, 0), not both", y.order(3, 0), 1);
     due("23 order(2, 0), of several", y.order(2, 0), 1);
     due("23 order(-1, 2)", x.order(-1, 2), -4);
     due("23 order(1000, 2)", x.order(1000, 2), -6);
@@ -134,6 +140,14 @@ public final class CupboardTest {
     due("31 turns(1, 0), not below", x.turns(1, 0), 3);
     MilkTwice y = Check.told("t032;t032;s103;");
     due("31 turns(1, 1) of two", y.turns(1, 1), 15);
+    y.stock(0, 4);
+    due("31 turns(1, 1), none below", y.turns(1, 1), 0);
+    y.stock(0, 2);
+    due("31 turns(1, 1), just USE", y.turns(1, 1), 0);
+    y.stock(1, 1);
+    due("31 turns(1, 1), the other", y.turns(1, 1), 13);
+    y.ticks(0, 0);
+    due("31 turns(1, 1), PENCE so far not", y.turns(1, 1), 13);
     due("31 turns(0, 2)", y.turns(0, 2), -4);
     due("31 turns(61, 2)", y.turns(61, 2), -6);
     due("31 turns(60, 2)", y.turns(60, 2), -2);
@@ -147,6 +161,7 @@ public final class CupboardTest {
     due("36 month(), enough", Check.told("t032;s060;").month(), 0);
     due("36 month(), not enough", Check.told("t032;s059;").month(), 5);
     due("36 month(), USE 0", Check.told("t030;").month(), 0);
+    due("36 month(), PENCE so far not", Check.told("t000;t032;k00;k00;").month(), 150);
     due("36 month() of none", new MilkTwice().month(), 0);
   }
 
@@ -157,7 +172,7 @@ public final class CupboardTest {
     due("37 swap(), not less", Check.told("t009;t001;").swap(), -9);
     due("37 swap(), alike", Check.told("t003;t003;s163;").swap(), -9);
     MilkTwice x = Check.told("t009;t001;s163;");
-    x.swap();
+    due("37 swap(), twice", x.swap(), 1);
     due("37 thingOf(0, 2)", x.thingOf(0, 2), 9);
   }
 
@@ -198,6 +213,7 @@ public final class CupboardTest {
     for (int k = 0; k < 8; k++) {
       due("40 cheapest(" + k + ", 5)", x.cheapest(k, 5), pence[k]);
     }
+    due("40 cheapest(1, 30)", x.cheapest(1, 30), 20);
     due("40 cheapest(6, 1)", x.cheapest(6, 1), 32);
     due("40 cheapest(-1, 31)", x.cheapest(-1, 31), -4);
     due("40 cheapest(8, 0)", x.cheapest(8, 0), -4);

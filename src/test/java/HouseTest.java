@@ -88,6 +88,8 @@ public final class HouseTest {
     due("3 lineOf(1, 0, 1)", x.lineOf(1, 0, 1), 5);
     due("3 lineOf(1, 1, 0)", x.lineOf(1, 1, 0), 1);
     fault(x, "w01;r1;j;x00;", 4);
+    due("3 apart(), joined", x.apart(), 0);
+    due("3 lineOf(1, 0, 1), joined", x.lineOf(1, 0, 1), 5);
     due("3 lineOf(0, 1, 0)", x.lineOf(0, 1, 0), 1);
     fault(x, "s000;d2;", 2);
     check.counts("3", x, 2, 3, 1, 9, 5, 0, 39);
@@ -266,6 +268,9 @@ public final class HouseTest {
     MilkTwice x = Check.told("t000;t000;r3;w00;x01;x01;x10;w01;w01;w11;x11;");
     due("12 join(), CLOCKS 3 and 2 apart", x.join(), 2);
     due("12 twice()", x.twice(), 2);
+    MilkTwice y = Check.told("t000;t000;t000;w10;w11;w12;x12;r1;");
+    due("12 join(), LIST 0 alone changes", y.join(), 2);
+    due("12 count(8)", y.count(8), 4);
   }
 
   private void promise13Day() {

@@ -66,6 +66,8 @@ public final class ListsTest {
     due("32 paper(0)", x.paper(0), 0);
     x.strikes(1, 1);
     due("32 paper(7)", x.paper(7), 6);
+    x.strikes(0, 0);
+    due("32 paper(5)", x.paper(5), 5);
     due("32 paper(-1)", x.paper(-1), -4);
     due("32 paper(128)", x.paper(128), -6);
   }
@@ -101,6 +103,9 @@ public final class ListsTest {
     due("33 fridge(100, 2)", x.fridge(100, 2), -6);
     due("33 fridge(99, 2)", x.fridge(99, 2), -2);
     due("33 fridge(0, -1)", x.fridge(0, -1), -2);
+    x.clear();
+    rows(x, 2, 0);
+    due("33 fridge(0, 0), 2 first in the ROW", x.fridge(0, 0), -3);
     for (int none : new int[] {2, 9, 12, 20, 99}) {
       x.clear();
       rows(x, 0, none);
@@ -115,6 +120,7 @@ public final class ListsTest {
     due("34 latest()", x.latest(), 21);
     x.join();
     due("34 latest(), of several", x.latest(), 20);
+    due("34 latest(), CLOCK 1", Check.told("t000;x10;").latest(), 1);
     due("34 latest() of none", new MilkTwice().latest(), -9);
     due("34 latest(), all 0", Check.told("t000;").latest(), -9);
   }
@@ -138,6 +144,7 @@ public final class ListsTest {
     }
     x.join();
     due("43 close(0), joined", x.close(0), 31);
+    due("43 close(9), both 0", Check.told("t000;t000;w11;").close(9), 2);
     due("43 close(-1)", x.close(-1), -4);
     due("43 close(10)", x.close(10), -6);
   }
@@ -146,7 +153,9 @@ public final class ListsTest {
     MilkTwice x = Check.told("t000;t000;t000;");
     due("45 biscuits(0) of none", x.biscuits(0), 0);
     due("45 biscuits(1) of none", x.biscuits(1), -9);
-    rows(x, 2, 1, 1, 2, 0);
+    rows(x, 2);
+    due("45 biscuits(1) of one", x.biscuits(1), 2);
+    rows(x, 1, 1, 2, 0);
     due("45 biscuits(0)", x.biscuits(0), 3);
     due("45 biscuits(1), of several", x.biscuits(1), 1);
     x.row(2);
@@ -154,6 +163,9 @@ public final class ListsTest {
     due("45 count(10), it stays", x.count(10), 6);
     x.row(3);
     due("45 biscuits(0), no THING", x.biscuits(0), -3);
+    x.clear();
+    rows(x, 3, 0);
+    due("45 biscuits(1), no THING first", x.biscuits(1), -3);
     due("45 biscuits(2)", x.biscuits(2), -2);
     due("45 biscuits(-1)", x.biscuits(-1), -2);
   }
