@@ -91,6 +91,9 @@ public final class HouseTest {
     due("3 apart(), joined", x.apart(), 0);
     due("3 lineOf(1, 0, 1), joined", x.lineOf(1, 0, 1), 5);
     due("3 lineOf(0, 1, 0)", x.lineOf(0, 1, 0), 1);
+    MilkTwice y = Check.told("t000;w00;j;");
+    due("3 lineOf(1, 0, 0), joined", y.lineOf(1, 0, 0), 1);
+    due("3 lineOf(1, 0, 1), joined", y.lineOf(1, 0, 1), 1);
     fault(x, "s000;d2;", 2);
     check.counts("3", x, 2, 3, 1, 9, 5, 0, 39);
     fault(x, "w00;d1;w07;", -2007);
