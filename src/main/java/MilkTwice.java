@@ -2,8 +2,8 @@
  * A shopping list that two have in their pockets, and the cupboard it is about.
  *
  * <p>The numbered promises stand in ../shared/DOC.md; words in capitals are that document's. The
- * class keeps to ../shared/LANGUAGE.md: nothing in it throws, and every row is made in a constructor
- * and used again.
+ * class keeps to ../shared/LANGUAGE.md: nothing in it throws, and every row is made in a
+ * constructor and used again.
  */
 public final class MilkTwice {
   private static final int NOBODY = -1;
@@ -89,6 +89,11 @@ public final class MilkTwice {
     return house.cupboard.has(thing) ? outside(v, least, most) : NOBODY;
   }
 
+  /** The refusal, or the next one, if what that one looks at does not fit. */
+  private static int firstOf(int refusal, boolean fits, int next) {
+    return refusal != 0 || fits ? refusal : next;
+  }
+
   private static boolean isOneOf(int what, int most) {
     return what >= 0 && what <= most;
   }
@@ -96,10 +101,7 @@ public final class MilkTwice {
   // ---- Houses told in letters ----
 
   public int feed(int letter) {
-    int refusal = outside(letter, 0, 255);
-    if (refusal == 0 && letters.isFull()) {
-      refusal = ROOM;
-    }
+    int refusal = firstOf(outside(letter, 0, 255), !letters.isFull(), ROOM);
     return refusal != 0 ? refuse(refusal) : letters.add(letter);
   }
 
@@ -272,10 +274,7 @@ public final class MilkTwice {
   }
 
   public int lacking(int n, int what) {
-    int refusal = outside(n, 0, FAR);
-    if (refusal == 0 && !isOneOf(what, 1)) {
-      refusal = OTHER;
-    }
+    int refusal = firstOf(outside(n, 0, FAR), isOneOf(what, 1), OTHER);
     if (refusal != 0) {
       return refuse(refusal);
     }
@@ -304,10 +303,7 @@ public final class MilkTwice {
   }
 
   public int order(int v, int what) {
-    int refusal = outside(v, 0, MOST_PENCE);
-    if (refusal == 0 && !isOneOf(what, 1)) {
-      refusal = OTHER;
-    }
+    int refusal = firstOf(outside(v, 0, MOST_PENCE), isOneOf(what, 1), OTHER);
     if (refusal != 0) {
       return refuse(refusal);
     }
@@ -347,10 +343,7 @@ public final class MilkTwice {
   }
 
   public int turns(int n, int way) {
-    int refusal = outside(n, 1, FAR);
-    if (refusal == 0 && !isOneOf(way, 1)) {
-      refusal = OTHER;
-    }
+    int refusal = firstOf(outside(n, 1, FAR), isOneOf(way, 1), OTHER);
     return refusal != 0 ? refuse(refusal) : mind.costOfTurns(n, way);
   }
 
@@ -363,10 +356,7 @@ public final class MilkTwice {
   }
 
   public int lots(int n, int z, int what) {
-    int refusal = outside(n, 1, 20);
-    if (refusal == 0 && !isOneOf(what, 1)) {
-      refusal = OTHER;
-    }
+    int refusal = firstOf(outside(n, 1, 20), isOneOf(what, 1), OTHER);
     return refusal != 0 ? refuse(refusal) : mind.weeksByLot(n, z, what);
   }
 
@@ -389,9 +379,7 @@ public final class MilkTwice {
 
   public int unheard(int thing, int a, int b, int way) {
     int refusal = house.cupboard.has(thing) ? eitherOutside(a, b, 0, 10) : NOBODY;
-    if (refusal == 0 && !isOneOf(way, 4)) {
-      refusal = OTHER;
-    }
+    refusal = firstOf(refusal, isOneOf(way, 4), OTHER);
     if (refusal != 0) {
       return refuse(refusal);
     }
@@ -434,10 +422,7 @@ public final class MilkTwice {
   }
 
   public int all(int a, int b, int what) {
-    int refusal = eitherOutside(a, b, 0, 10);
-    if (refusal == 0 && !isOneOf(what, 1)) {
-      refusal = OTHER;
-    }
+    int refusal = firstOf(eitherOutside(a, b, 0, 10), isOneOf(what, 1), OTHER);
     if (refusal != 0) {
       return refuse(refusal);
     }
@@ -475,10 +460,7 @@ public final class MilkTwice {
   }
 
   public long sure(int f, int seen, int part) {
-    int refusal = outside(f, 2, 99);
-    if (refusal == 0 && (!isOneOf(seen, 1) || !isOneOf(part, 1))) {
-      refusal = OTHER;
-    }
+    int refusal = firstOf(outside(f, 2, 99), isOneOf(seen, 1) && isOneOf(part, 1), OTHER);
     if (refusal != 0) {
       return refuseLong(refusal);
     }
@@ -525,9 +507,9 @@ public final class MilkTwice {
   // ---- The row ----
 
   public int row(int v) {
-    int refusal = outside(v, 0, 99);
-    if (refusal != 0 || rowLength >= row.length) {
-      return refuse(refusal != 0 ? refusal : ROOM);
+    int refusal = firstOf(outside(v, 0, 99), rowLength < row.length, ROOM);
+    if (refusal != 0) {
+      return refuse(refusal);
     }
     row[rowLength] = v;
     rowLength++;
@@ -586,13 +568,8 @@ public final class MilkTwice {
   }
 
   public int fridge(int v, int what) {
-    int refusal = outside(v, 0, 99);
-    if (refusal == 0 && !isOneOf(what, 1)) {
-      refusal = OTHER;
-    }
-    if (refusal == 0 && !isRowOfLines()) {
-      refusal = STATE;
-    }
+    int refusal = firstOf(outside(v, 0, 99), isOneOf(what, 1), OTHER);
+    refusal = firstOf(refusal, isRowOfLines(), STATE);
     if (refusal != 0) {
       return refuse(refusal);
     }
