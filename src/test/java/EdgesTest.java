@@ -175,6 +175,7 @@ public final class EdgesTest {
     run(nines, nines + " = 32", nines + " = 32", "d9;".repeat(14) + " = 14", "count(2) = 990",
         "d9;d1; = -2003", "count(2) = 990", "d8; = 1", "day() = 0", "count(2) = 999",
         "day() ! -6", "count(2) = 999", "d0; = 1", "d1; = -2000", "d0;d9; = -2003", "j; = 1");
+    // NOW 999 is further than 512 calls reach; the class keeps to it all the same.
     MilkTwice x = Check.told("t000;");
     for (int i = 0; i < 40; i++) {
       Check.tell(x, "w00;k00;x00;".repeat(8));
@@ -184,8 +185,15 @@ public final class EdgesTest {
         "w00;k00;x00;".repeat(4) + "w00;w00;"), 38);
     check.due("writes(0, 0), NOW 998", x.writes(0, 0), 999);
     check.due("house(), NOW 999", Check.tell(x, "j;w00;"), -2002);
-    check.due("writes(0, 0), NOW 999", x.writes(0, 0), -6);
-    check.due("ticks(0, 1), NOW 999", x.ticks(0, 1), -1);
+    check.due("house(), NOW 999", Check.tell(x, "k01;"), -2000);
+    for (String call : new String[] {"writes", "ticks", "strikes"}) {
+      check.due(call + "(0, 0), NOW 999", Call.on(x, call + "(0, 0)"), -6);
+      check.due(call + "(1, 0), NOW 999", Call.on(x, call + "(1, 0)"), -6);
+      check.due(call + "(0, 1), NOW 999", Call.on(x, call + "(0, 1)"), -1);
+      check.due(call + "(2, 0), NOW 999", Call.on(x, call + "(2, 0)"), -1);
+    }
+    check.counts("NOW 999", x, 11, 6, 0, 0, 0, 0, 6);
+    check.counts("NOW 999", x, 1, 999);
   }
 
   // ---- I: lists ----
@@ -220,7 +228,8 @@ public final class EdgesTest {
         "lineOf(0, 0, 0) = 1", "back() ! -3", "count(1) = 1");
     // Each that is not refused counts, also if all stays as it was; what is refused does not.
     run("t000;", "stock(0, 0) = 0", "join() = 0", "day() = 0", "count(17) = 3",
-        "stock(0, 100) ! -6", "writes(2, 0) ! -1", "ticks(0, 1) ! -1", "strikes(0, -1) ! -1", "count(17) = 3",
+        "stock(0, 100) ! -6", "writes(2, 0) ! -1", "ticks(0, 1) ! -1", "strikes(0, -1) ! -1",
+        "count(17) = 3",
         "rule(4) ! -2", "thing(6, 0, 0) ! -2", "restore() ! -3", ":r1 = -1002", "r4; = -2000",
         ": = -1000", "count(17) = 3", "image() = 0", "count(17) = 3");
     String[] leaveNone = {"rule(0) = 0", "thing(0, 0, 0) = 1", "j; = 1", "restore() = 0"};
@@ -228,6 +237,8 @@ public final class EdgesTest {
       run("t000;", "image() = 0", "join() = 0", "join() = 0", "count(17) = 2", call,
           "count(17) = 0", "back() ! -3");
     }
+    run("", "join() = 0", "day() = 0", "count(17) = 2", "thing(0, 0, 0) = 0", "count(17) = 0",
+        "back() ! -3", "count(0) = 1", "count(2) = 1");
   }
 
   private void imageIsAllOfI() {
@@ -302,7 +313,8 @@ public final class EdgesTest {
 
   private void unheardByTenths() {
     run("t001;", "unheard(0, 0, 0, 0) = 300", "unheard(0, 0, 0, 3) = 300",
-        "unheard(0, 0, 0, 4) = 0", "unheard(0, 10, 0, 1) = 0", "unheard(0, 10, 0, 2) = 300", "unheard(0, 10, 0, 3) = 0",
+        "unheard(0, 0, 0, 4) = 0", "unheard(0, 10, 0, 1) = 0", "unheard(0, 10, 0, 2) = 300",
+        "unheard(0, 10, 0, 3) = 0",
         "unheard(0, 10, 0, 4) = 1", "unheard(0, 0, 10, 1) = 300", "unheard(0, 0, 10, 2) = 0",
         "unheard(0, 0, 10, 4) = 2", "unheard(0, 10, 10, 3) = 200", "unheard(0, 10, 10, 4) = 1",
         "unheard(0, 1, 1, 0) = 300", "unheard(0, 1, 1, 1) = 270", "unheard(0, 1, 1, 3) = 245",

@@ -16,10 +16,13 @@ public final class RefusalsTest {
     "4 thingOf(0, -1) -2", "4 thingOf(5, 9) -2", "4 thingOf(0, min) -2", "4 thingOf(0, max) -2",
 
     "5 thing(-1, 0, 0) -2", "5 thing(6, 0, 0) -2", "5 thing(min, 0, 0) -2", "5 thing(max, 0, 0) -2",
-    "5 thing(-1, -1, 0) -2", "5 thing(6, 0, -1) -2", "5 thing(-1, 10, 0) -2", "5 thing(6, 0, 10) -2",
-    "5 thing(0, -1, 0) -4", "5 thing(0, 0, -1) -4", "5 thing(5, min, 0) -4", "5 thing(5, 0, min) -4",
+    "5 thing(-1, -1, 0) -2", "5 thing(6, 0, -1) -2", "5 thing(-1, 10, 0) -2",
+    "5 thing(6, 0, 10) -2",
+    "5 thing(0, -1, 0) -4", "5 thing(0, 0, -1) -4", "5 thing(5, min, 0) -4",
+    "5 thing(5, 0, min) -4",
     "5 thing(0, -1, 10) -4", "5 thing(0, 10, -1) -4", "5 thing(0, max, min) -4",
-    "5 thing(0, 10, 0) -6", "5 thing(0, 0, 10) -6", "5 thing(5, max, 9) -6", "5 thing(5, 9, max) -6",
+    "5 thing(0, 10, 0) -6", "5 thing(0, 0, 10) -6", "5 thing(5, max, 9) -6",
+    "5 thing(5, 9, max) -6",
 
     "6 stock(-1, 0) -1", "6 stock(6, 0) -1", "6 stock(min, 0) -1", "6 stock(max, 0) -1",
     "6 stock(-1, -1) -1", "6 stock(6, 100) -1",
@@ -95,8 +98,10 @@ public final class RefusalsTest {
     "27 flour(9, 12, 10, 2) -2", "27 flour(0, 0, 0, -1) -2", "27 flour(0, 0, 0, min) -2",
     "27 flour(0, 0, 0, max) -2",
 
-    "28 sure(1, 0, 0) -4", "28 sure(min, 1, 1) -4", "28 sure(100, 0, 0) -6", "28 sure(max, 1, 1) -6",
-    "28 sure(1, 2, 0) -4", "28 sure(1, 0, 2) -4", "28 sure(100, -1, 0) -6", "28 sure(100, 0, -1) -6",
+    "28 sure(1, 0, 0) -4", "28 sure(min, 1, 1) -4", "28 sure(100, 0, 0) -6",
+    "28 sure(max, 1, 1) -6",
+    "28 sure(1, 2, 0) -4", "28 sure(1, 0, 2) -4", "28 sure(100, -1, 0) -6",
+    "28 sure(100, 0, -1) -6",
     "28 sure(2, -1, 0) -2", "28 sure(99, 2, 0) -2", "28 sure(2, 0, -1) -2", "28 sure(99, 1, 2) -2",
     "28 sure(2, min, max) -2", "28 sure(2, max, min) -2",
 
@@ -104,7 +109,8 @@ public final class RefusalsTest {
     "29 bars(2, min, 0) -4", "29 bars(2, 1, min) -4", "29 bars(0, 1, 0) -4", "29 bars(1, 10, 0) -4",
     "29 bars(21, 0, 0) -4", "29 bars(21, 1, -1) -4", "29 bars(2, 0, 100) -4",
     "29 bars(1, 1, 100) -4", "29 bars(2, 10, -1) -4",
-    "29 bars(21, 1, 0) -6", "29 bars(2, 10, 0) -6", "29 bars(2, 1, 100) -6", "29 bars(max, 9, 99) -6",
+    "29 bars(21, 1, 0) -6", "29 bars(2, 10, 0) -6", "29 bars(2, 1, 100) -6",
+    "29 bars(max, 9, 99) -6",
     "29 bars(20, max, 99) -6", "29 bars(20, 9, max) -6",
 
     "30 alike(-1) -2", "30 alike(2) -2", "30 alike(min) -2", "30 alike(max) -2",
@@ -155,7 +161,8 @@ public final class RefusalsTest {
     "6 stock(0, 100) -1", "7 lineOf(0, 0, 0) -1", "7 lineOf(1, 0, 2) -1", "8 writes(0, 0) -1",
     "9 ticks(1, 0) -1", "10 strikes(0, 0) -1", "11 rule(4) -2", "14 back() -3",
     "18 stockIn(0, 0) -1", "18 stockIn(0, 61) -1", "20 runsOut(0) -1", "22 buyFor(0, 1) -1",
-    "22 buyFor(0, 0) -1", "22 buyFor(-1, 0) -4", "22 buyFor(-1, 31) -6", "24 unheard(0, 0, 0, 0) -1",
+    "22 buyFor(0, 0) -1", "22 buyFor(-1, 0) -4", "22 buyFor(-1, 31) -6",
+    "24 unheard(0, 0, 0, 0) -1",
     "24 unheard(0, -1, 11, 5) -1", "25 game(0) -1", "33 fridge(100, 0) -6", "38 needs(0, 1) -1",
     "38 needs(0, 31) -1", "39 noWaste(0, 1) -1", "39 noWaste(0, 0) -1", "49 judge(0) -1",
     "53 restore() -3",
@@ -182,6 +189,17 @@ public final class RefusalsTest {
     "33 fridge(0, 0) -3", "33 fridge(99, 1) -3", "33 fridge(0, 2) -2", "33 fridge(100, 0) -6",
     "33 fridge(-1, 0) -4", "45 biscuits(0) -3", "45 biscuits(1) -3", "45 biscuits(2) -2",
     "45 biscuits(-1) -2", "49 judge(6) -1",
+  };
+
+  /** Questions that can be answered: they leave all as it was, and are not counted. */
+  private static final String[] QUESTIONS = {
+    "thingOf(5, 8)", "lineOf(1, 5, 1)", "apart()", "joined(3, 2)", "bestRule(1)", "stockIn(1, 60)",
+    "lacking(60, 1)", "runsOut(1)", "firstOut()", "buyFor(-1, 30)", "buyFor(5, 30)",
+    "order(999, 0)", "unheard(5, 10, 10, 4)", "game(5)", "all(10, 10, 1)", "flour(9, 12, 10, 1)",
+    "sure(99, 1, 1)", "bars(20, 9, 99)", "alike(1)", "turns(60, 1)", "turns(60, 0)", "paper(127)",
+    "fridge(99, 1)", "latest()", "twice()", "month()", "swap()", "needs(5, 30)", "noWaste(5, 30)",
+    "cheapest(7, 30)", "interval(9)", "skew(9)", "skew(-9)", "close(9)", "worth()", "biscuits(1)",
+    "lasts(7)", "weekly()", "lots(20, max, 1)", "count(17)", "count(18)", "count(-1)",
   };
 
   private static final String[] ON_DAY_999 = {"13 day() -6", "49 judge(1) -1"};
@@ -242,6 +260,16 @@ public final class RefusalsTest {
       check.due(name + ", then count(" + what + ")", x.count(what), y.count(what) + more);
     }
     check.due(name + ", all else is as it was", all(x).equals(all(y)) ? 1 : 0, 1);
+  }
+
+  private void asked(String call) {
+    MilkTwice x = rich();
+    MilkTwice y = rich();
+    Call.on(x, call);
+    for (int what = 11; what <= 16; what++) {
+      check.due(call + ", then count(" + what + ")", x.count(what), y.count(what));
+    }
+    check.due(call + ", all is as it was", all(x).equals(all(y)) ? 1 : 0, 1);
   }
 
   private void refusedEach(String state, String[] rows, Supplier<MilkTwice> make) {
@@ -309,6 +337,9 @@ public final class RefusalsTest {
     test.refusedEach("one with a stray in the ROW", WITH_A_STRAY_IN_THE_ROW,
         RefusalsTest::withStray);
     test.refusedEach("one on DAY 999", ON_DAY_999, RefusalsTest::onDay999);
+    for (String call : QUESTIONS) {
+      test.asked(call);
+    }
     test.check.end();
   }
 }
