@@ -1,6 +1,9 @@
 import java.lang.reflect.Method;
 
-/** A call as it is written, "stock(0, 99)", done on an object; min and max stand for those ints. */
+/**
+ * A call as it is written, "stock(0, 99)" or "feed('t')", done on an object; min and max stand for
+ * those ints.
+ */
 final class Call {
   private Call() {}
 
@@ -20,6 +23,9 @@ final class Call {
   }
 
   private static int number(String word) {
+    if (word.startsWith("'")) {
+      return word.charAt(1);
+    }
     switch (word) {
       case "min":
         return Integer.MIN_VALUE;

@@ -19,6 +19,15 @@ public final class FaceTest {
       + "int lasts(int) int weekly() int row(int) int judge(int) int clear() int lots(int,int,int) "
       + "int image() int restore() int count(int)";
 
+  /** The names of all calls of the face. */
+  static TreeSet<String> names() {
+    TreeSet<String> names = new TreeSet<>();
+    for (String method : FACE.split(" (?=int |long )")) {
+      names.add(method.substring(method.indexOf(' ') + 1, method.indexOf('(')));
+    }
+    return names;
+  }
+
   public static void main(String[] args) {
     Check check = new Check();
     TreeSet<String> seen = new TreeSet<>();
